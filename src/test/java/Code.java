@@ -62,9 +62,23 @@ final class Code {
     static final int MOVE = 32;
 
     private final ByteArrayOutputStream out = new ByteArrayOutputStream();
+    private final int begins;
+
+    Code() {
+        this(0);
+    }
+
+    /** A command that begins at a place of the whole code: its jumps are told from there. */
+    Code(int begins) {
+        this.begins = begins;
+    }
+
+    int size() {
+        return out.size();
+    }
 
     int place() {
-        return out.size();
+        return begins + out.size();
     }
 
     Code raw(int... bytes) {
@@ -115,6 +129,26 @@ final class Code {
         return this;
     }
 
+    /** The n bytes from a on come to bytes 0 .. n - 1 of a PARAMETER; the word at 248 is worked with. */
+    Code giveOut(int a, int n, int parameter) {
+        word(248, n);
+        int loop = place();
+        push(248).op(LOADW).push(1).op(SUB, DUP).push(248).op(STOREW);
+        op(DUP).push(a).op(ADD, LOADB, SWAP).push(parameter).sys(PUTBYTE);
+        push(248).op(LOADW);
+        return jump(JZERO, place() + 6).jump(JUMP, loop);
+    }
+
+    /** Bytes 0 .. n - 1 of a PARAMETER come to the bytes from a on; the word at 248 is worked with. */
+    Code takeIn(int parameter, int n, int a) {
+        word(248, n);
+        int loop = place();
+        push(248).op(LOADW).push(1).op(SUB, DUP).push(248).op(STOREW);
+        op(DUP).push(parameter).sys(GETBYTE).op(SWAP).push(a).op(ADD, STOREB);
+        push(248).op(LOADW);
+        return jump(JZERO, place() + 6).jump(JUMP, loop);
+    }
+
     Code end() {
         return raw(END);
     }
@@ -137,7 +171,7 @@ final class Code {
         for (Code c : commands) {
             image.write(begins >> 8);
             image.write(begins);
-            begins += c.place();
+            begins += c.size();
         }
         for (Code c : commands) {
             image.writeBytes(c.bytes());

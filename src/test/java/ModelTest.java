@@ -222,7 +222,7 @@ public final class ModelTest {
         int begins = 0;
         for (int i = 0; i < n; i++) {
             commands[i] = command(begins);
-            begins += commands[i].place();
+            begins += commands[i].size();
         }
         byte[] image = Code.image(big ? 2 : chance(97) ? 1 + pick(4) : pick(7), commands);
         if (chance(3)) {
@@ -232,7 +232,7 @@ public final class ModelTest {
     }
 
     private Code command(int begins) {
-        Code code = new Code();
+        Code code = new Code(begins);
         if (chance(50)) {
             code.word(4 * pick(8), oneOf(0x41424344, 1, 0x10203, random.nextInt()));
         }
@@ -242,7 +242,7 @@ public final class ModelTest {
             code.sys(Code.BEGIN).op(Code.DROP);
         }
         for (int i = 0; i < statements; i++) {
-            statement(code, deal, begins);
+            statement(code, deal);
         }
         if (deal && chance(80)) {
             code.sys(chance(85) ? Code.COMMIT : Code.UNDO);
@@ -256,7 +256,7 @@ public final class ModelTest {
         return code;
     }
 
-    private void statement(Code code, boolean deal, int begins) {
+    private void statement(Code code, boolean deal) {
         int kind = pick(100);
         if (big && kind < 90) {
             code.word(4 * pick(12), random.nextInt());
@@ -284,9 +284,9 @@ public final class ModelTest {
         } else if (kind < 94) {
             pairs(code);
         } else if (kind < 96) {
-            code.push(pick(2)).jump(Code.JZERO, begins + code.place() + 3 + oneOf(0, 1, 2, 6, 40));
+            code.push(pick(2)).jump(Code.JZERO, code.place() + 3 + oneOf(0, 1, 2, 6, 40));
         } else if (kind < 97) {
-            code.jump(Code.CALL, begins + code.place() + 3 + oneOf(0, 0, 0, 5, -3)).op(oneOf(Code.DUP, Code.RET, Code.DROP));
+            code.jump(Code.CALL, code.place() + 3 + oneOf(0, 0, 0, 5, -3)).op(oneOf(Code.DUP, Code.RET, Code.DROP));
         } else if (kind < 98) {
             code.raw(pick(30), pick(256));
         } else if (curves) {
