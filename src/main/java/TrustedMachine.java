@@ -141,6 +141,7 @@ public final class TrustedMachine {
     public int call(int number, int x, int y, int z) {
         boolean wasDown = vault.down;
         int code = monitor.ask(number, x, y, z);
+        // the codes run from here, and not from within the monitor, so that few calls stand open at once
         if (code == Monitor.RUNS) {
             code = monitor.finish(codes.run(monitor.running, monitor.slice));
         }
@@ -2787,7 +2788,7 @@ public final class TrustedMachine {
             return true;
         }
 
-        /* The root of (y^2 - 1) / (d y^2 + 1), by u v^3 (u v^7)^(2^252 - 3); false when there is none. */
+        /* The root of u / v, u = y^2 - 1 and v = d y^2 + 1, by u (u v)^(2^252 - 3); false when there is none. */
         private boolean findX(long[][] p) {
             long[] u = t[0];
             long[] v = t[1];
@@ -2796,14 +2797,9 @@ public final class TrustedMachine {
             subtract(u, t[2], ONE);
             multiply(v, t[2], D);
             add(v, v, ONE);
-            multiply(t[2], v, v);
-            multiply(t[2], t[2], v);
-            multiply(t[3], t[2], t[2]);
-            multiply(t[3], t[3], v);
-            multiply(t[3], t[3], u);
-            toPower(t[3], t[3], false);
-            multiply(t[2], t[2], u);
-            multiply(x, t[2], t[3]);
+            multiply(t[2], u, v);
+            toPower(t[2], t[2], false);
+            multiply(x, u, t[2]);
             multiply(t[2], x, x);
             multiply(t[2], t[2], v);
             subtract(t[3], t[2], u);

@@ -23,6 +23,7 @@ public final class CipherTest {
         open();
         sign();
         verify();
+        verifyManyKeys();
         verifyOddPoints();
         agree();
         ranges();
@@ -208,6 +209,18 @@ public final class CipherTest {
         }
     }
 
+    /** Keys whose x is odd and even, whichever root is found first. */
+    private static void verifyManyKeys() {
+        for (int i = 0; i < 24; i++) {
+            byte[] secret = Rig.rows(32, 3 * i);
+            byte[] text = Rig.rows(i, 1);
+            byte[] signature = PlainCurve.sign(secret, text);
+            Check.due("VERIFY by key " + i, verified(text, PlainCurve.publicKey(secret), signature), "ends 1");
+            signature[31] ^= (byte) 128;
+            Check.due("VERIFY of the other point", verified(text, PlainCurve.publicKey(secret), signature), "ends 0");
+        }
+    }
+
     /** Points of low order, encodings that are none, and S at the group's order. */
     private static void verifyOddPoints() {
         byte[] one = PlainCurve.lowestFirst(BigInteger.ONE);
@@ -289,9 +302,15 @@ public final class CipherTest {
             Code c = new Code().push(Arrays.copyOfRange(r, 1, r.length - 1)).sys(r[0]).end(1);
             Check.due("SYS " + Arrays.toString(r), Rig.outcome(c), r[r.length - 1] == 0 ? "ends 1" : "fault 4");
         }
-        Code wide = new Code().sys(Code.SIGN, 0, 513, 600);
-        Check.due("SIGN of 513", Rig.with(4, wide).invoke(0, 0), "fault 4");
-        Code most = new Code().sys(Code.SIGN, 0, 512, 600).sys(Code.SEAL, 0, 512, 900).sys(Code.OPEN, 0, 512, 900).op(Code.END);
-        Check.due("512 bytes", Rig.with(4, most).invoke(0, 0), "ends 0");
+        Code[] wide = {
+            new Code().sys(Code.SIGN, 0, 513, 600), new Code().sys(Code.SEAL, 0, 513, 900), new Code().sys(Code.OPEN, 0, 513, 900),
+            new Code().sys(Code.VERIFY, 0, 513, 600, 700), new Code().sys(Code.MAKE, 0, 257)
+        };
+        for (Code c : wide) {
+            Check.due("a size above all", Rig.with(4, c.end(1)).invoke(0, 0), "fault 4");
+        }
+        Code most = new Code().sys(Code.PUBLIC, 700).sys(Code.SIGN, 0, 512, 600).sys(Code.VERIFY, 0, 512, 700, 600)
+                .sys(Code.SEAL, 0, 512, 900).sys(Code.OPEN, 0, 512, 900).op(Code.ADD, Code.END);
+        Check.due("512 bytes", Rig.with(4, most).invoke(0, 0), "ends 1");
     }
 }

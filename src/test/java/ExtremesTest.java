@@ -80,7 +80,7 @@ public final class ExtremesTest {
                 m.register(i);
             }
         } catch (IndexOutOfBoundsException e) {
-            thrown = true;
+            thrown = e.getClass() == IndexOutOfBoundsException.class;
         }
         Check.due("result or register " + i + " throws", thrown, i < 0 || i > (result ? 3 : 17));
     }

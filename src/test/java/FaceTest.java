@@ -198,7 +198,8 @@ public final class FaceTest {
             try {
                 m.result(i);
             } catch (IndexOutOfBoundsException e) {
-                thrown = true;
+                // a class below it would be the Java machine's own
+                thrown = e.getClass() == IndexOutOfBoundsException.class;
             }
             Check.due("result(" + i + ") throws", thrown, true);
         }
@@ -248,7 +249,7 @@ public final class FaceTest {
             try {
                 m.disk(at[0], at[1], 1);
             } catch (NoSuchElementException e) {
-                thrown = true;
+                thrown = e.getClass() == NoSuchElementException.class;
             }
             Check.due("disk(" + at[0] + ", " + at[1] + ", 1) throws", thrown, true);
         }

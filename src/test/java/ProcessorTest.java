@@ -264,7 +264,7 @@ public final class ProcessorTest {
             try {
                 rig.machine.register(i);
             } catch (IndexOutOfBoundsException e) {
-                thrown = true;
+                thrown = e.getClass() == IndexOutOfBoundsException.class;
             }
             Check.due("register(" + i + ") throws", thrown, true);
         }

@@ -203,7 +203,9 @@ public final class SysTest {
         for (int i = 4; i <= 8; i++) {
             Check.due("GROW to " + i, rig.invoke(0, 0), "ends 0");
         }
-        Check.due("GROW to 9", rig.invoke(0, 0), "ends 4");
+        rig.machine.call(1, 12, 0, 0);
+        Check.due("GROW to 9, though a page is free", rig.invoke(0, 0), "ends 4");
+        Check.due("which stays so", rig.machine.call(2, 12, 0, 0), 0);
         Rig none = new Rig();
         byte[] image = Code.image(1, c);
         none.burn(image, 7);
