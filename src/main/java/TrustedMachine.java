@@ -676,6 +676,7 @@ public final class TrustedMachine {
         final Cipher cipher;
         final byte[][] disk = new byte[BLOCKS][256];
         final byte[][] before = new byte[BLOCKS][256];
+        /* Of the blocks that were ever written or edited: no place of the tree names another one. */
         final byte[][] digests = new byte[BLOCKS][32];
         /* The form that a block was last found to have, 0 for none: it is looked at once only. */
         final int[] forms = new int[BLOCKS];
@@ -697,10 +698,6 @@ public final class TrustedMachine {
         Vault(Sha256 sha, Cipher cipher) {
             this.sha = sha;
             this.cipher = cipher;
-            sha.digest(page, 0, 256, 0, digests[0], 0);
-            for (int i = 1; i < BLOCKS; i++) {
-                System.arraycopy(digests[0], 0, digests[i], 0, 32);
-            }
         }
 
         int edit(int block, int k, int mask) {
@@ -1634,11 +1631,18 @@ public final class TrustedMachine {
             }
             session.steps++;
             number = me.code[at] & 255;
-            if (number > SYS || at + 1 + TOLD[number] > me.codeLength) {
+            if (number > SYS) {
                 return STRANGE;
             }
-            me.place = at + 1 + TOLD[number];
-            readTold(at + 1, TOLD[number]);
+            int more = TOLD[number];
+            int behind = at + 1 + more;
+            if (behind > me.codeLength) {
+                return STRANGE;
+            }
+            me.place = behind;
+            if (more > 0) {
+                readTold(at + 1, more);
+            }
             if (number == SYS) {
                 if (operand > 32) {
                     return STRANGE;
@@ -1660,7 +1664,7 @@ public final class TrustedMachine {
                 operand = code[at] & 255;
             } else if (n == 2) {
                 operand = (code[at] & 255) << 8 | code[at + 1] & 255;
-            } else if (n == 4) {
+            } else {
                 operand = code[at] & 255 | (code[at + 1] & 255) << 8 | (code[at + 2] & 255) << 16
                         | (code[at + 3] & 255) << 24;
             }

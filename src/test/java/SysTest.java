@@ -313,5 +313,15 @@ public final class SysTest {
             Check.due("PUT " + Arrays.toString(p), Rig.outcome(new Code().sys(Code.PUT, p[0], p[1], p[2], p[3]).end(1)), want);
             Check.due("GET " + Arrays.toString(p), Rig.outcome(new Code().sys(Code.GET, p[0], p[1], p[2], p[3]).end(1)), want);
         }
+        int[][] names = {{0, 1, 1}, {240, 16, 1}, {241, 16, 0}, {255, 1, 1}, {256, 1, 0}, {0, 0, 0}, {0, 17, 0}, {-1, 1, 0}, {0, -1, 0}};
+        for (int[] n : names) {
+            String want = n[2] == 1 ? "ends 1" : "fault 4";
+            Check.due("DELETE " + Arrays.toString(n), Rig.outcome(new Code().sys(Code.DELETE, n[0], n[1]).end(1)), want);
+            Check.due("HAS " + Arrays.toString(n), Rig.outcome(new Code().sys(Code.HAS, n[0], n[1]).end(1)), want);
+        }
+        int[][] lists = {{0, 1}, {240, 1}, {241, 0}, {-1, 0}, {Integer.MAX_VALUE, 0}};
+        for (int[] l : lists) {
+            Check.due("LIST to " + l[0], Rig.outcome(new Code().sys(Code.LIST, 0, l[0]).end(1)), l[1] == 1 ? "ends 1" : "fault 4");
+        }
     }
 }
