@@ -19,6 +19,7 @@ public final class CipherTest {
 
     public static void main(String[] args) throws Exception {
         make();
+        makeBehindBoot();
         seal();
         open();
         sign();
@@ -67,6 +68,24 @@ public final class CipherTest {
         Check.due("MAKE of none, and of 32", counted.invoke(0, 1), "ends 0");
         Check.due("the one that was not done does not count, the empty one does", counted.memory(Rig.BYTES, 32),
                 Model.chacha(KEY, new byte[] {2, 0, 0, 0, 0, 0, 0, 0, 0, 0, 0, 1}, new byte[32]));
+    }
+
+    /** MAKEs are counted from each boot on. */
+    private static void makeBehindBoot() {
+        Code make = new Code().sys(Code.MAKE, 0, 32).giveOut(0, 32, 1).end();
+        Code put = new Code(make.size()).sys(Code.PUT, 0, 0, 0, 1).op(Code.END);
+        Rig rig = keyed(1, make, put);
+        rig.tell(0, 0, 0, 5, Rig.BYTES, 32);
+        rig.invoke(0, 0);
+        byte[] first = rig.memory(Rig.BYTES, 32);
+        rig.machine.power(0);
+        Check.due("the power ends", rig.invoke(0, 1), "code -1");
+        rig.start();
+        rig.bringIn(Code.image(1, make, put));
+        rig.open(2);
+        rig.tell(0, 0, 0, 5, Rig.BYTES, 32);
+        Check.due("MAKE", rig.invoke(0, 0), "ends 0");
+        Check.due("it begins anew", rig.memory(Rig.BYTES, 32), first);
     }
 
     private static byte[] sealed(byte[] image, byte[] nonce, byte[] text) throws Exception {

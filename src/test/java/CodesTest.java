@@ -209,27 +209,35 @@ public final class CodesTest {
         exactly();
     }
 
+    /** Codes that take so many STEPS, 19000 .. 20000, and leave one word. */
+    private static Code spending(int steps) {
+        Code c = new Code().sys(Code.PUBLIC, 0).sys(Code.PUBLIC, 0).sys(Code.PUBLIC, 0).push(0);
+        int turns = (steps - 3 * 5002) / 7;
+        int loop = c.place();
+        c.push(1).op(Code.ADD, Code.DUP).push(turns).op(Code.SUB);
+        c.jump(Code.JZERO, c.place() + 6).jump(Code.JUMP, loop);
+        for (int i = 3 * 5002 + 7 * turns; i < steps; i++) {
+            c.jump(Code.JUMP, c.place() + 3);
+        }
+        return c;
+    }
+
     /** Runs that need just 20000 STEPS, and one more. */
     private static void exactly() {
-        for (int over = 0; over <= 1; over++) {
-            Code c = new Code();
-            c.sys(Code.PUBLIC, 0).sys(Code.PUBLIC, 0).sys(Code.PUBLIC, 0);
-            c.push(0);
-            int loop = c.place();
-            c.push(1).op(Code.ADD, Code.DUP).push(712 + over).op(Code.SUB);
-            c.jump(Code.JZERO, c.place() + 6).jump(Code.JUMP, loop);
-            int steps = 3 * 5002 + 1 + 7 * (712 + over) - 1;
-            for (int i = steps; i < 19999 + over; i++) {
-                c.jump(Code.JUMP, c.place() + 3);
-            }
-            due("a run of " + (20000 + over) + " STEPS", c.op(Code.END), over == 0 ? "ends 712" : "fault 6");
-        }
-        Code last = new Code();
-        last.sys(Code.PUBLIC, 0).sys(Code.PUBLIC, 0).sys(Code.PUBLIC, 0);
-        for (int i = 0; i < 3; i++) {
-            last.sys(Code.HASH, 0, -1, 0);
-        }
-        due("a size above 2048 counts as 2048, ahead of fault 4", last, "fault 4");
+        due("TIME of so many", spending(19500).sys(Code.TIME).op(Code.END), "ends 19501");
+        due("a run of 20000 STEPS", spending(19998).push(3).op(Code.END), "ends 3");
+        due("a run of 20001", spending(19999).push(3).op(Code.END), "fault 6");
+        due("a strange code then", spending(20000).raw(99), "fault 6");
+        due("and a STEP earlier", spending(19999).raw(99), "fault 1");
+        due("the code's end then", spending(20000), "fault 6");
+        due("and a STEP earlier", spending(19999), "fault 1");
+        due("too few when there are STEPS for one", spending(19999).sys(Code.PUT), "fault 2");
+        due("too few STEPS for the hundred", spending(19900 - 4).sys(Code.PUT, 0, 0, 0, 1).op(Code.END), "fault 6");
+        due("and one more", spending(19899 - 4).sys(Code.PUT, 0, 0, 0, 1).op(Code.DROP, Code.DROP), "fault 6");
+        due("and enough", spending(19899 - 4).sys(Code.PUT, 0, 999, 0, 1), "fault 4");
+        due("a size above 2048 counts as 2048", spending(20000 - 36).sys(Code.HASH, 0, -1, 0), "fault 4");
+        due("with a STEP less", spending(20000 - 35).sys(Code.HASH, 0, -1, 0), "fault 6");
+        due("2049 counts so, too", spending(20000 - 36).sys(Code.HASH, 0, 2049 + 64, 0), "fault 4");
     }
 
     private static void slices() {
@@ -248,24 +256,6 @@ public final class CodesTest {
         turning.machine.call(12, 20000, 0, 0);
         Check.due("20000 codes, and it yields ahead of fault 6", turning.invoke(0, 0), "code 9");
         Check.due("which comes then", turning.resume(0), "fault 6");
-        Rig atEnd = Rig.with(1, atEndOfSteps());
-        atEnd.machine.call(12, 0, 0, 0);
-        Check.due("the code's end when 20000 are done is 6", atEnd.invoke(0, 0), "fault 6");
-    }
-
-    /** Comes to the code's end with all 20000 STEPS done. */
-    private static Code atEndOfSteps() {
-        Code c = new Code();
-        c.sys(Code.PUBLIC, 0).sys(Code.PUBLIC, 0).sys(Code.PUBLIC, 0);
-        c.push(0);
-        int loop = c.place();
-        c.push(1).op(Code.ADD, Code.DUP).push(712).op(Code.SUB);
-        c.jump(Code.JZERO, c.place() + 6).jump(Code.JUMP, loop);
-        int steps = 3 * 5002 + 1 + 7 * 712 - 1;
-        for (int i = steps; i < 20000; i++) {
-            c.jump(Code.JUMP, c.place() + 3);
-        }
-        return c;
     }
 
     private static void due(String what, String got, String want) {

@@ -19,6 +19,7 @@ public final class MonitorTest {
         invoke();
         parameters();
         outPlaces();
+        outOverPages();
         digest();
         slices();
         raise();
@@ -278,11 +279,40 @@ public final class MonitorTest {
         Check.due("parameters were copied at once", rig.resume(0), "ends 6");
         Check.due("words go where they stood", rig.word(Rig.TOLD + 4), 0);
 
+        rig.machine.call(12, 1, 0, 0);
+        rig.tell(5, Rig.BYTES, 1);
+        Check.due("in the midst", rig.invoke(0, 1), "code 9");
+        rig.machine.call(1, Rig.BYTES / 256, 0, 0);
+        Check.due("a single byte's place is not normal any more", rig.resume(0), "code 2");
+        rig.machine.call(2, Rig.BYTES / 256, 0, 0);
+        rig.tell(5, Rig.BYTES, 0, 4, Rig.BYTES, 1);
+        Check.due("in the midst", rig.invoke(0, 1), "code 9");
+        rig.machine.call(1, Rig.BYTES / 256, 0, 0);
+        Check.due("nothing goes out there", rig.resume(0), "ends 6");
+        rig.machine.call(2, Rig.BYTES / 256, 0, 0);
+
         rig.machine.call(12, 0, 0, 0);
         rig.tell(5, Rig.TOLD + 16, 4, 2, 77, 78, 2, 9, 9, 6, Rig.TOLD + 32, 2);
         Check.due("one behind the other", rig.invoke(0, 1), "ends 6");
         Check.due("the later one counts", rig.word(Rig.TOLD + 16), 0);
         Check.due("the last one, too", rig.word(Rig.TOLD + 32), 9);
+    }
+
+    /** A parameter of values whose sort is in one page, and whose two words are in the next one. */
+    private static void outOverPages() {
+        for (int protect = 9; protect <= 10; protect++) {
+            Rig rig = Rig.with(1, new Code().push(5, 0).sys(Code.SETSECOND).end(6));
+            int z = 10 * 256 - 4;
+            rig.store(z, new byte[] {2, 0, 0, 0, 1, 1, 1, 1, 1, 1, 1, 1});
+            rig.machine.call(12, 1, 0, 0);
+            due(rig, 7, 0, 0, z, 9);
+            rig.machine.call(1, protect, 0, 0);
+            rig.machine.call(12, 0, 0, 0);
+            due(rig, 13, 0, 0, 0, protect == 9 ? 0 : 2);
+            if (protect == 9) {
+                Check.due("the second word", rig.word(z + 8), 5);
+            }
+        }
     }
 
     private static void digest() {
@@ -336,6 +366,18 @@ public final class MonitorTest {
         due(rig, 5, 0, 0, 0, 0);
         due(rig, 12, 0, 0, 0, 0);
         Check.due("the run of a closed session is over", rig.invoke(0, 0), "ends 4");
+
+        Code writes = new Code().sys(Code.PUT, 0, 0, 0, 1).op(Code.END);
+        byte[] image = Code.image(1, writes);
+        Rig booted = Rig.with(1, writes);
+        due(booted, 12, 3, 0, 0, 0);
+        Check.due("a slice of three", booted.invoke(0, 0), "code 9");
+        booted.machine.power(0);
+        Check.due("the power ends", booted.resume(0), "code -1");
+        booted.start();
+        booted.bringIn(image);
+        booted.open(0);
+        Check.due("at a boot slices are without end", booted.invoke(0, 0), "ends 0");
     }
 
     private static void raise() {

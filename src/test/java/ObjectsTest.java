@@ -14,6 +14,7 @@ public final class ObjectsTest {
     public static void main(String[] args) {
         putAndGet();
         layout();
+        padding();
         names();
         deleting();
         fullNode();
@@ -201,6 +202,20 @@ public final class ObjectsTest {
         Check.due("blocks in use", k.rig.kept(0), "1 1 4");
         k.put(0, "ab", new byte[0]);
         Check.due("freed blocks are taken again, the lowest first", k.rig.machine.disk(0, 27, 0), 3);
+    }
+
+    /** Behind an object's last byte there are 0s, whatever was put before. */
+    private static void padding() {
+        Keeper k = new Keeper(1).start();
+        byte[] key = Rig.rows(32, 66);
+        byte[] bytes = Rig.rows(512, 9);
+        k.put(0, "x", bytes);
+        k.put(0, "x", Arrays.copyOf(bytes, 257));
+        Check.due("DATA 1 of 257 bytes", k.rig.block(6), Model.chacha(key, new byte[] {0, 0, 0, 0, 0, 0, 0, 2, 0, 0, 0, 1},
+                Arrays.copyOf(Arrays.copyOfRange(bytes, 256, 257), 256)));
+        k.put(0, "x", Arrays.copyOf(bytes, 1));
+        Check.due("DATA 0 of 1 byte", k.rig.block(0), Model.chacha(key, new byte[] {0, 0, 0, 0, 0, 0, 0, 3, 0, 0, 0, 0},
+                Arrays.copyOf(Arrays.copyOf(bytes, 1), 256)));
     }
 
     private static void place(byte[] holder, int at, int block, byte[] bytes) {

@@ -15,6 +15,7 @@ public final class SysTest {
         grow();
         rights();
         hashMacMove();
+        pagesApart();
         rangesOfBytes();
         Check.finish();
     }
@@ -285,6 +286,30 @@ public final class SysTest {
             Check.due("MOVE", moved.invoke(0, 0), "ends 0");
             Check.due("MOVE to " + to, moved.memory(Rig.BYTES + 256, 200), text);
         }
+    }
+
+    /** Bytes over pages that lie apart in MEMORY. */
+    private static void pagesApart() {
+        byte[] text = Rig.rows(140, 31);
+        Code c = new Code().takeIn(0, 140, 100);
+        c.sys(Code.MOVE, 100, 140, 350).sys(Code.MOVE, 100, 400, 301).sys(Code.HASH, 99, 640, 700).giveOut(700, 32, 1).end();
+        Rig rig = new Rig();
+        byte[] image = Code.image(3, c);
+        rig.burn(image, 7);
+        rig.machine.boot();
+        for (int page : new int[] {20, 10, 15}) {
+            rig.machine.call(1, page, 0, 0);
+        }
+        rig.bringIn(image);
+        rig.open(0);
+        rig.store(Rig.BYTES, text);
+        rig.tell(4, Rig.BYTES, 140, 5, Rig.BYTES + 256, 32);
+        byte[] all = new byte[768];
+        System.arraycopy(text, 0, all, 100, 140);
+        System.arraycopy(all.clone(), 100, all, 350, 140);
+        System.arraycopy(all.clone(), 100, all, 301, 400);
+        Check.due("MOVE and HASH over pages that lie apart", rig.invoke(0, 0), "ends 0");
+        Check.due("the digest", rig.memory(Rig.BYTES + 256, 32), Model.sha(Arrays.copyOfRange(all, 99, 739)));
     }
 
     private static void rangesOfBytes() {
