@@ -27,6 +27,7 @@ public final class CipherTest {
         verifyManyKeys();
         verifyOddPoints();
         agree();
+        oneBehindTheOther();
         ranges();
         Check.finish();
     }
@@ -303,6 +304,31 @@ public final class CipherTest {
         }
         Check.due("a number of all bits", agreed(hex("ff".repeat(32)), nine), PlainCurve.agree(hex("ff".repeat(32)), nine));
         Check.due("a number of none", agreed(new byte[32], nine), PlainCurve.agree(new byte[32], nine));
+    }
+
+    /** What one call leaves behind is of no matter for the next one. */
+    private static void oneBehindTheOther() {
+        Code in = new Code().takeIn(0, 160, 0).end();
+        Code agree = new Code(in.size()).sys(Code.AGREE, 0, 32, 300).giveOut(300, 32, 1).end();
+        Code sign = new Code(in.size() + agree.size()).sys(Code.SIGN, 0, 50, 300).giveOut(300, 64, 1).end();
+        Code verify = new Code(in.size() + agree.size() + sign.size()).sys(Code.VERIFY, 96, 60, 0, 32).op(Code.END);
+        Rig rig = keyed(2, in, agree, sign, verify);
+        for (int i = 0; i < 4; i++) {
+            byte[] text = Rig.rows(160, 11 * i + 1);
+            byte[] by = Rig.rows(32, i);
+            System.arraycopy(PlainCurve.publicKey(by), 0, text, 0, 32);
+            System.arraycopy(PlainCurve.sign(by, Arrays.copyOfRange(text, 96, 156)), 0, text, 32, 64);
+            text[40] += (byte) (i % 2);
+            rig.store(Rig.BYTES, text);
+            rig.tell(4, Rig.BYTES, 160, 5, Rig.BYTES + 256, 64);
+            Check.due("bytes come in", rig.invoke(0, 0), "ends 0");
+            Check.due("AGREE", rig.invoke(0, 1), "ends 0");
+            Check.due("AGREE " + i, rig.memory(Rig.BYTES + 256, 32),
+                    PlainCurve.agree(Arrays.copyOf(text, 32), Arrays.copyOfRange(text, 32, 64)));
+            Check.due("VERIFY " + i, rig.invoke(0, 3), i % 2 == 0 ? "ends 1" : "ends 0");
+            Check.due("SIGN", rig.invoke(0, 2), "ends 0");
+            Check.due("SIGN " + i, rig.memory(Rig.BYTES + 256, 64), PlainCurve.sign(secret(), Arrays.copyOf(text, 50)));
+        }
     }
 
     private static void ranges() {

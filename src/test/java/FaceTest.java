@@ -224,12 +224,15 @@ public final class FaceTest {
         Check.due("an empty tape", m.store(5), true);
         Check.due("an empty tape at 0", m.store(0), true);
         Check.due("an empty tape below 0", m.store(-1), false);
+        Check.due("an empty tape in a secure page", m.store(24 * 256), true);
+        Check.due("an empty tape beyond all", m.store(Integer.MAX_VALUE), true);
         m.call(1, 9, 0, 0);
         Check.due("over a secure page", rig.store(9 * 256 - 1, new byte[] {1, 1}), false);
         Check.due("up to it", rig.store(9 * 256 - 2, new byte[] {1, 1}), true);
         Check.due("from behind it", rig.store(10 * 256, new byte[] {1}), true);
         byte[] wide = new byte[600];
         Check.due("a page in the midst", rig.store(9 * 256 - 100, wide), false);
+        m.feed(0, 0, 0, 0, 0);
         Check.due("far below 0", m.store(Integer.MIN_VALUE), false);
         Check.due("far above", m.store(Integer.MAX_VALUE), false);
     }

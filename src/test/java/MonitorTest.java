@@ -300,17 +300,19 @@ public final class MonitorTest {
 
     /** A parameter of values whose sort is in one page, and whose two words are in the next one. */
     private static void outOverPages() {
-        for (int protect = 9; protect <= 10; protect++) {
-            Rig rig = Rig.with(1, new Code().push(5, 0).sys(Code.SETSECOND).end(6));
-            int z = 10 * 256 - 4;
-            rig.store(z, new byte[] {2, 0, 0, 0, 1, 1, 1, 1, 1, 1, 1, 1});
+        for (int i = 0; i < 8; i++) {
+            int parameter = i / 2;
+            boolean first = i % 2 == 0;
+            Rig rig = Rig.with(1, new Code().push(5, parameter).sys(Code.SETSECOND).end(6));
+            int z = 10 * 256 - 4 - 12 * parameter;
+            rig.store(z + 12 * parameter, new byte[] {2, 0, 0, 0, 1, 1, 1, 1, 1, 1, 1, 1});
             rig.machine.call(12, 1, 0, 0);
             due(rig, 7, 0, 0, z, 9);
-            rig.machine.call(1, protect, 0, 0);
+            rig.machine.call(1, first ? 9 : 10, 0, 0);
             rig.machine.call(12, 0, 0, 0);
-            due(rig, 13, 0, 0, 0, protect == 9 ? 0 : 2);
-            if (protect == 9) {
-                Check.due("the second word", rig.word(z + 8), 5);
+            due(rig, 13, 0, 0, 0, first ? 0 : 2);
+            if (first) {
+                Check.due("the second word", rig.word(10 * 256 + 4), 5);
             }
         }
     }
@@ -336,6 +338,10 @@ public final class MonitorTest {
         due(rig, 9, 0, 1, -1, 1);
         due(rig, 9, 0, 1, BIG, 1);
         due(rig, 9, BIG, 1024, 0, 1);
+        for (int x : new int[] {24 * 256, 8192, BIG}) {
+            due(rig, 9, x, 0, 300, 0);
+            Check.due("DIGEST of nothing at " + x, rig.memory(300, 32), Model.sha(new byte[0]));
+        }
         due(rig, 10, -1, 0, 0, 1);
         due(rig, 10, 8, 0, 0, 1);
         due(rig, 10, 7, 0, 0, 0);
@@ -419,6 +425,7 @@ public final class MonitorTest {
         due(rig, 16, 0, -1, 200, 1);
         due(rig, 16, 0, 100, 16 * 256 - 63, 1);
         due(rig, 16, 0, 16 * 256 - 31, 200, 1);
+        due(rig, 16, 0, 16 * 256 - 32, 16 * 256 - 64, 0);
         for (int open = 0; open < 3; open++) {
             due(rig, 16, 0, 100, 200, 0);
             byte[] signed = ByteBuffer.allocate(76).put(Model.sha(image)).put(asked).putInt(9876).putInt(open > 1 ? 1 : 0)
