@@ -270,6 +270,10 @@ public final class CipherTest {
         byte[] atOrder = identity.clone();
         System.arraycopy(PlainCurve.lowestFirst(PlainCurve.L), 0, atOrder, 32, 32);
         Check.due("S at the order", verified(new byte[] {7}, one, atOrder), "ends 0");
+        BigInteger most = PlainCurve.L.subtract(BigInteger.ONE);
+        byte[] below = Arrays.copyOf(PlainCurve.encode(PlainCurve.times(most, PlainCurve.BASE)), 64);
+        System.arraycopy(PlainCurve.lowestFirst(most), 0, below, 32, 32);
+        Check.due("S just below the order", verified(new byte[] {7}, one, below), "ends 1");
         Check.due("x 0 with its bit", verified(new byte[] {7}, oneWithBit, identity), "ends 0");
         Check.due("y not below the prime", verified(new byte[] {7}, oneAndP, identity), "ends 0");
     }

@@ -315,6 +315,10 @@ public final class MonitorTest {
                 Check.due("the second word", rig.word(10 * 256 + 4), 5);
             }
         }
+        Rig last = Rig.with(1, new Code().push(5, 3).sys(Code.SETSECOND).end(6));
+        last.store(16 * 256 - 12, new byte[] {2, 0, 0, 0, 1, 1, 1, 1, 1, 1, 1, 1});
+        due(last, 7, 0, 0, 16 * 256 - 48, 0);
+        Check.due("the last word ahead of a secure page", last.word(16 * 256 - 4), 5);
     }
 
     private static void digest() {
@@ -415,6 +419,7 @@ public final class MonitorTest {
         byte[] secret = Model.mac(key, new byte[] {1});
         due(rig, 15, -1, 0, 0, 1);
         due(rig, 15, 16 * 256 - 31, 0, 0, 1);
+        due(rig, 15, 16 * 256 - 32, 0, 0, 0);
         due(rig, 15, 500, 0, 0, 0);
         Check.due("PUBLIC", rig.memory(500, 32), PlainCurve.publicKey(secret));
         due(rig, 16, 0, 100, 200, 3);

@@ -267,6 +267,15 @@ public final class ObjectsTest {
         Check.due("KEPT", k.rig.kept(0), "7 7 9");
         Check.due("an eighth", k.put(0, names[7], new byte[0]), "ends 4");
         Check.due("nothing is changed", k.rig.count(), 7);
+        int first = findObject(k, 'a');
+        k.put(0, "b", new byte[] {1});
+        int data = k.rig.machine.disk(findObject(k, 'b'), 28, 0);
+        k.rig.machine.disk(data, 0, 1);
+        Check.due("no place comes ahead of a tree that is not whole", k.put(0, names[7], new byte[0]), "ends 4");
+        Check.due("which is 6 when there is one", k.put(0, "c", new byte[0]), "ends 6");
+        k.rig.machine.disk(data, 0, 1);
+        Check.due("DELETE", k.delete(0, "b"), "ends 0");
+        Check.due("the first OBJECT is still there", k.rig.machine.disk(first, 2, 0), 'a');
         Check.due("one of another NODE", k.put(0, "b", new byte[0]), "ends 0");
         Check.due("one that is there", k.put(0, "o", new byte[] {1}), "ends 0");
         Check.due("DELETE", k.delete(0, "v"), "ends 0");
@@ -274,6 +283,20 @@ public final class ObjectsTest {
         // b is in NODE 0, the others are in NODE 6
         Check.due("in the order of the tree", k.list(0, 4), "ends 0 told 1");
         Check.due("it has the place that was empty", k.listed(0).charAt(0), 'E');
+    }
+
+    /** The block of the latest OBJECT with this name. */
+    private static int findObject(Keeper k, char name) {
+        int found = 0;
+        int number = -1;
+        for (int block = 0; block < 64; block++) {
+            byte[] b = k.rig.block(block);
+            if (b[1] == 1 && b[2] == name && b[3] == 0 && b[27] > number) {
+                found = block;
+                number = b[27];
+            }
+        }
+        return found;
     }
 
     private static void fullDisk() {
@@ -380,13 +403,7 @@ public final class ObjectsTest {
         k.put(0, "a", new byte[0]);
         k.put(0, "h", new byte[0]);
         k.put(0, "b", new byte[0]);
-        int[] objects = {-1, -1, -1};
-        for (int block = 0; block < 10; block++) {
-            byte[] bytes = k.rig.block(block);
-            for (int i = 0; i < 3; i++) {
-                objects[i] = bytes[1] == 1 && bytes[2] == "ahb".charAt(i) ? block : objects[i];
-            }
-        }
+        int[] objects = {findObject(k, 'a'), findObject(k, 'h'), findObject(k, 'b')};
         k.rig.machine.disk(objects[1], 255, 1);
         Check.due("an OBJECT ahead of it is found", k.has(0, "a"), "ends 0 told 0");
         Check.due("LIST as far as it is found", k.list(0, 0), "ends 0 told 1");

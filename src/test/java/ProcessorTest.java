@@ -213,6 +213,12 @@ public final class ProcessorTest {
         due("again", rig, 0, 8);
         due("the place", rig, 16, AT + 24);
 
+        Rig high = with(wide(20, 0, 256), wide(20, 0, 65535));
+        high.machine.walk(1);
+        due("call 256", high, 0, 1);
+        high.machine.walk(1);
+        due("call 65535", high, 0, 1);
+
         Rig run = Rig.with(1, new Code().sys(Code.FIRST, 0).push(1).op(Code.ADD, Code.END), new Code(14).sys(Code.PANIC));
         run.tell(1, 41, 0);
         run.store(AT, program(wide(1, 3, Rig.TOLD), wide(20, 5, 7), wide(1, 1, 0), wide(1, 2, 1), wide(1, 3, Rig.TOLD), wide(20, 0, 7)));

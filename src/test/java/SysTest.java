@@ -15,6 +15,7 @@ public final class SysTest {
         grow();
         rights();
         hashMacMove();
+        bytesBehind();
         pagesApart();
         rangesOfBytes();
         Check.finish();
@@ -285,6 +286,22 @@ public final class SysTest {
             moved.tell(4, Rig.BYTES, 200, 5, Rig.BYTES + 256, 200);
             Check.due("MOVE", moved.invoke(0, 0), "ends 0");
             Check.due("MOVE to " + to, moved.memory(Rig.BYTES + 256, 200), text);
+        }
+    }
+
+    /** What comes to a place leaves the bytes behind it as they are. */
+    private static void bytesBehind() {
+        int[][] rows = {{Code.HASH, 0, 1, 96, 32}, {Code.MAC, 0, 1, 0, 64, 96, 32}, {Code.MOVE, 0, 7, 96, 7}, {Code.SIGN, 0, 1, 96, 64},
+            {Code.PUBLIC, 96, 32}, {Code.AGREE, 0, 0, 96, 32}, {Code.SEAL, 96, 5, 0, 21}, {Code.MAKE, 96, 9, 9}};
+        for (int[] r : rows) {
+            int behind = 96 + r[r.length - 1];
+            Code c = new Code();
+            for (int i = 0; i < 72; i += 4) {
+                c.word(i, 0x01010101 * (i + 1));
+            }
+            c.word(behind, 0x5a5a5a5a).word(92, 0x3c3c3c3c).push(Arrays.copyOfRange(r, 1, r.length - 1)).sys(r[0]);
+            c.push(behind).op(Code.LOADW).push(92).op(Code.LOADW, Code.XOR, Code.END);
+            Check.due("the bytes around what SYS " + r[0] + " gives", Rig.outcome(c), "ends " + (0x5a5a5a5a ^ 0x3c3c3c3c));
         }
     }
 
