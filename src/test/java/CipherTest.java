@@ -173,6 +173,19 @@ public final class CipherTest {
             Check.due("the library says so, too",
                     libraryVerifies(PlainCurve.publicKey(secret()), Arrays.copyOf(text, n), signature), true);
         }
+        Code over = new Code().takeIn(0, 240, 256).sys(Code.SIGN, 256, 200, 270).giveOut(270, 64, 1).end();
+        Rig overlaid = keyed(2, over);
+        overlaid.store(Rig.BYTES, Rig.rows(240, 8));
+        overlaid.tell(4, Rig.BYTES, 240, 5, Rig.BYTES + 256, 64);
+        Check.due("SIGN", overlaid.invoke(0, 0), "ends 0");
+        Check.due("SIGN over what is signed", overlaid.memory(Rig.BYTES + 256, 64),
+                PlainCurve.sign(secret(), Arrays.copyOf(Rig.rows(240, 8), 200)));
+        Code near = new Code().takeIn(0, 100, 0).sys(Code.SIGN, 0, 100, 10).giveOut(10, 64, 1).end();
+        Rig low = keyed(1, near);
+        low.store(Rig.BYTES, Rig.rows(100, 8));
+        low.tell(4, Rig.BYTES, 100, 5, Rig.BYTES + 256, 64);
+        Check.due("SIGN", low.invoke(0, 0), "ends 0");
+        Check.due("SIGN to a low place", low.memory(Rig.BYTES + 256, 64), PlainCurve.sign(secret(), Rig.rows(100, 8)));
         Code c = new Code().sys(Code.PUBLIC, 0).giveOut(0, 32, 1).end();
         Rig rig = keyed(1, c);
         rig.tell(0, 0, 0, 5, Rig.BYTES, 32);

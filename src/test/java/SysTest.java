@@ -232,6 +232,11 @@ public final class SysTest {
         for (int i = 0; i < one.length; i++) {
             Check.due("without the right 1, case " + i, Rig.withRights(6, 1, one[i].op(Code.END)).invoke(0, 0), "ends 2");
         }
+        int[][] twos = {{Code.GET, 0, 1, 0, 1}, {Code.HAS, 0, 1}, {Code.LIST, 0, 0}};
+        for (int[] t : twos) {
+            Code c = new Code().push(Arrays.copyOfRange(t, 1, t.length)).sys(t[0]).op(Code.END);
+            Check.due("what SYS " + t[0] + " tells beside it", Rig.withRights(6, 1, c).invoke(0, 0), "ends 0");
+        }
         Code[] beyond = {
             new Code().sys(Code.PUT, 0, 513, 0, 1), new Code().sys(Code.GET, 0, 1, 0, 17), new Code().sys(Code.DELETE, 0, 0),
             new Code().sys(Code.HAS, 256, 1), new Code().sys(Code.LIST, 0, 241)
