@@ -1555,6 +1555,8 @@ public final class TrustedMachine {
         Applet me;
         int number;
         int operand;
+        /* Where on the stack the words begin that the code takes, and then those that it gives. */
+        int base;
         /* What the run ended with, or its fault. */
         int told;
         int makes;
@@ -1649,10 +1651,11 @@ public final class TrustedMachine {
                 }
                 number = SYS + operand;
             }
-            if (me.depth < TAKES[number]) {
+            base = me.depth - TAKES[number];
+            if (base < 0) {
                 return TOO_FEW;
             }
-            if (me.depth - TAKES[number] + GIVES[number] > 64) {
+            if (base + GIVES[number] > 64) {
                 return TOO_MANY;
             }
             return number < SYS ? ON : takeSteps(EXTRA[number - SYS]);
@@ -1685,49 +1688,42 @@ public final class TrustedMachine {
 
         /* The word i of those that the code takes, the lowest one first. */
         private int argument(int i) {
-            return me.stack[me.depth - TAKES[number] + i];
+            return me.stack[base + i];
         }
 
         private int answer(int c) {
-            me.depth -= TAKES[number];
-            me.push(c);
+            me.stack[base] = c;
+            me.depth = base + 1;
             return ON;
         }
 
         private int answerTwo(int c, int r) {
-            me.depth -= TAKES[number];
-            me.push(c);
-            me.push(r);
+            me.stack[base] = c;
+            me.stack[base + 1] = r;
+            me.depth = base + 2;
             return ON;
         }
 
         private int done() {
-            me.depth -= TAKES[number];
+            me.depth = base;
             return ON;
         }
 
         private int reckon() {
-            int[] stack = me.stack;
-            int top = me.depth - 1;
             switch (number) {
                 case 0:
-                    told = top < 0 ? 0 : stack[top];
+                    told = me.depth == 0 ? 0 : me.stack[me.depth - 1];
                     return ENDED;
                 case 1:
-                    me.push(operand);
-                    return ON;
+                    return answer(operand);
                 case 2:
-                    me.push(stack[top]);
-                    return ON;
+                    return answerTwo(argument(0), argument(0));
                 case 3:
-                    me.depth = top;
-                    return ON;
+                    return done();
                 case 4:
-                    return answerTwo(stack[top], stack[top - 1]);
+                    return answerTwo(argument(1), argument(0));
                 default:
-                    me.depth = top;
-                    stack[top - 1] = worked(number, stack[top - 1], stack[top]);
-                    return ON;
+                    return answer(worked(number, argument(0), argument(1)));
             }
         }
 
