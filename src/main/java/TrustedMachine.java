@@ -676,7 +676,7 @@ public final class TrustedMachine {
         final Cipher cipher;
         final byte[][] disk = new byte[BLOCKS][256];
         final byte[][] before = new byte[BLOCKS][256];
-        /* Of the blocks that were ever written or edited: no place of the tree names another one. */
+        /* Of each block as it is now: they are looked at more often than blocks change. */
         final byte[][] digests = new byte[BLOCKS][32];
         /* The form that a block was last found to have, 0 for none: it is looked at once only. */
         final int[] forms = new int[BLOCKS];
@@ -698,6 +698,11 @@ public final class TrustedMachine {
         Vault(Sha256 sha, Cipher cipher) {
             this.sha = sha;
             this.cipher = cipher;
+            byte[] blank = new byte[32];
+            sha.digest(new byte[256], 0, 256, 0, blank, 0);
+            for (int i = 0; i < BLOCKS; i++) {
+                System.arraycopy(blank, 0, digests[i], 0, 32);
+            }
         }
 
         int edit(int block, int k, int mask) {
@@ -920,20 +925,19 @@ public final class TrustedMachine {
                     return CORRUPT;
                 }
             }
-            int number = Sha256.word(object, 24);
             for (int k = 0; k < parts; k++) {
                 System.arraycopy(disk[object[28 + PLACE * k]], 0, to, 256 * k, 256);
-                setNonce(number, k);
+                setNonce(Sha256.word(object, 20), Sha256.word(object, 24), k);
                 cipher.stream(cipher.key, 0, to, 256 * k, 256);
             }
             return WELL;
         }
 
-        /* A NUMBER is a COUNT, so the higher four of its eight bytes are 0. */
-        private void setNonce(int number, int part) {
-            Arrays.fill(cipher.nonce, (byte) 0);
-            Sha256.putWord(cipher.nonce, 4, number);
-            cipher.nonce[11] = (byte) part;
+        /* Of a NUMBER of eight bytes: an object on the disk may have any. */
+        private void setNonce(int higher, int lower, int part) {
+            Sha256.putWord(cipher.nonce, 0, higher);
+            Sha256.putWord(cipher.nonce, 4, lower);
+            Sha256.putWord(cipher.nonce, 8, part);
         }
 
         /* Looks at the whole tree: its NODES, its OBJECTS by their places, and the blocks in use. */
@@ -1000,8 +1004,11 @@ public final class TrustedMachine {
             return sum;
         }
 
-        /* What the notes make of the tree that was looked at: a slot of 64 + j is note j's object. */
-        int plan(Notes notes, int product) {
+        /*
+         * What the notes make of the tree that was looked at: a slot of 64 + j is note j's object. How many
+         * blocks their DATA and OBJECTS need, or NONE when a NODE has no place.
+         */
+        private int plan(Notes notes, int product) {
             int needed = 0;
             for (int j = 0; j < notes.count; j++) {
                 boolean putting = notes.sizes[j] != NONE;
@@ -1010,7 +1017,7 @@ public final class TrustedMachine {
                 if (slot == NONE && putting) {
                     slot = emptySlot(n);
                     if (slot == NONE) {
-                        return FULL;
+                        return NONE;
                     }
                 }
                 if (slot != NONE) {
@@ -1019,7 +1026,7 @@ public final class TrustedMachine {
                     needed += putting ? 1 + parts(notes.sizes[j]) : 0;
                 }
             }
-            return needed + countRenewed() > BLOCKS - countUsed() ? FULL : WELL;
+            return needed;
         }
 
         private int slotOf(int n, int product, byte[] name, int length) {
@@ -1049,29 +1056,53 @@ public final class TrustedMachine {
             return false;
         }
 
-        /* How many blocks the changed NODES and the ROOT take: those without any place take none. */
+        /* A NODE on the disk may have no OBJECT. A COMMIT that leaves none but such leaves no ROOT. */
+        private void dropNodesIfAllAreEmpty() {
+            for (int n = 0; n < WAYS; n++) {
+                if (hasObjects(n)) {
+                    return;
+                }
+            }
+            for (int n = 0; n < WAYS; n++) {
+                nodes[n] = nodes[n] == RENEWED ? RENEWED : EMPTY;
+            }
+        }
+
+        /* Whether the ROOT is to have a NODE there. */
+        private boolean isNamed(int n) {
+            return nodes[n] == RENEWED ? hasObjects(n) : nodes[n] != EMPTY;
+        }
+
+        /* How many blocks writeTree takes for the changed NODES and the ROOT. */
         private int countRenewed() {
             int renewed = 0;
             boolean changes = false;
-            boolean left = false;
+            boolean any = false;
             for (int n = 0; n < WAYS; n++) {
-                changes |= nodes[n] == RENEWED;
-                if (hasObjects(n)) {
-                    left = true;
-                    renewed += nodes[n] == RENEWED ? 1 : 0;
+                boolean named = isNamed(n);
+                any |= named;
+                if (nodes[n] == RENEWED) {
+                    changes = true;
+                    renewed += named ? 1 : 0;
                 }
             }
-            return changes && left ? renewed + 1 : 0;
+            return changes && any ? renewed + 1 : 0;
         }
 
         /* All that is noted, done at once: WELL, FULL or CORRUPT, or DOWN when the power ends on the way. */
-        int commit(Notes notes, int product) {
+        int commit(Notes notes, int product, boolean together) {
             if (!look()) {
                 return CORRUPT;
             }
-            int code = plan(notes, product);
-            if (code != WELL) {
-                return code;
+            int needed = plan(notes, product);
+            if (needed == NONE) {
+                return FULL;
+            }
+            if (together) {
+                dropNodesIfAllAreEmpty();
+            }
+            if (needed + countRenewed() > BLOCKS - countUsed()) {
+                return FULL;
             }
             return writeObjects(notes, product) && writeTree() ? WELL : DOWN;
         }
@@ -1129,7 +1160,7 @@ public final class TrustedMachine {
         private void fillData(byte[] bytes, int size, int part) {
             Arrays.fill(page, (byte) 0);
             System.arraycopy(bytes, 256 * part, page, 0, Math.min(256, size - 256 * part));
-            setNonce(count + 1, part);
+            setNonce(0, count + 1, part);
             cipher.stream(cipher.key, 0, page, 0, 256);
         }
 
@@ -1880,7 +1911,7 @@ public final class TrustedMachine {
             if (noting) {
                 return answer(WELL);
             }
-            code = vault.commit(notes, me.product);
+            code = vault.commit(notes, me.product, false);
             return code == DOWN ? DOWN : answer(code);
         }
 
@@ -2126,7 +2157,7 @@ public final class TrustedMachine {
             if (sys == 29) {
                 return answer(WELL);
             }
-            int code = vault.commit(me.notes, me.product);
+            int code = vault.commit(me.notes, me.product, true);
             return code == DOWN ? DOWN : answer(code);
         }
     }

@@ -52,6 +52,8 @@ final class Model {
         }
     }
 
+    private enum Form { NODE, OBJECT, DATA }
+
     private static final class Corrupt extends RuntimeException {
         private static final long serialVersionUID = 1;
 
@@ -310,6 +312,12 @@ final class Model {
         }
         disk[block] = old[block].clone();
         return true;
+    }
+
+    /** Not of the document: the CELL names another ROOT, as if two contents of its BLOCK had one DIGEST. */
+    void setRoot(int block) {
+        root = block;
+        seal = block == 255 ? new byte[32] : sha(disk[block]);
     }
 
     // ---- Part V
@@ -1151,7 +1159,7 @@ final class Model {
                         return;
                     }
                     s.beganBy = null;
-                    f.push(commit(product, s.notes));
+                    f.push(commit(product, s.notes, true));
                     return;
                 default:
                     f.push(mine ? 0 : 7);
@@ -1185,24 +1193,50 @@ final class Model {
     }
 
     /** The block that a place of 33 bytes names, if it is whole; null for none. */
-    private Integer placeAt(byte[] holder, int at) {
+    private Integer placeAt(byte[] holder, int at, Form form) {
         int block = holder[at] & 255;
-        if (block == 255) {
+        if (block == 255 && form != Form.DATA) {
             return null;
         }
-        if (block > 63 || !Arrays.equals(sha(disk[block]), Arrays.copyOfRange(holder, at + 1, at + 33))) {
+        if (block > 63) {
             throw new Corrupt();
         }
+        mustBeWhole(block, Arrays.copyOfRange(holder, at + 1, at + 33), form);
         return block;
+    }
+
+    private void mustBeWhole(int block, byte[] digest, Form form) {
+        byte[] b = disk[block];
+        boolean formed = form == Form.DATA || (form == Form.NODE ? isNode(b) : isObject(b));
+        if (!Arrays.equals(sha(b), digest) || !formed) {
+            throw new Corrupt();
+        }
+    }
+
+    private static boolean isNode(byte[] b) {
+        for (int i = 0; i < 7; i++) {
+            if ((b[33 * i] & 255) == 255 && !zeros(b, 33 * i + 1, 33 * i + 33)) {
+                return false;
+            }
+        }
+        return zeros(b, 231, 256);
+    }
+
+    private static boolean isObject(byte[] b) {
+        int size = 256 * (b[18] & 255) + (b[19] & 255);
+        return (b[0] & 255) < 8 && b[1] >= 1 && b[1] <= 16 && size <= 512 && zeros(b, 2 + b[1], 18)
+                && zeros(b, 28 + 33 * ((size + 255) / 256), 256);
+    }
+
+    private static boolean zeros(byte[] b, int from, int to) {
+        return Arrays.equals(Arrays.copyOfRange(b, from, to), new byte[to - from]);
     }
 
     private byte[] rootBlock() {
         if (root == 255) {
             return null;
         }
-        if (!Arrays.equals(sha(disk[root]), seal)) {
-            throw new Corrupt();
-        }
+        mustBeWhole(root, seal, Form.NODE);
         return disk[root];
     }
 
@@ -1230,9 +1264,9 @@ final class Model {
 
     private Obj find(int product, String name) {
         byte[] top = rootBlock();
-        Integer node = top == null ? null : placeAt(top, 33 * wayOf(product, name));
+        Integer node = top == null ? null : placeAt(top, 33 * wayOf(product, name), Form.NODE);
         for (int i = 0; node != null && i < 7; i++) {
-            Integer block = placeAt(disk[node], 33 * i);
+            Integer block = placeAt(disk[node], 33 * i, Form.OBJECT);
             if (block != null) {
                 Obj o = object(block);
                 if (o.product == product && o.name.equals(name)) {
@@ -1247,9 +1281,9 @@ final class Model {
         byte[] top = rootBlock();
         long left = wanted & 0xffffffffL;
         for (int n = 0; top != null && n < 7; n++) {
-            Integer node = placeAt(top, 33 * n);
+            Integer node = placeAt(top, 33 * n, Form.NODE);
             for (int i = 0; node != null && i < 7; i++) {
-                Integer block = placeAt(disk[node], 33 * i);
+                Integer block = placeAt(disk[node], 33 * i, Form.OBJECT);
                 if (block != null && object(block).product == product && left-- == 0) {
                     return object(block);
                 }
@@ -1261,7 +1295,7 @@ final class Model {
     private byte[] bytes(Obj o) {
         byte[] all = new byte[256 * o.data.size()];
         for (int i = 0; i < o.data.size(); i++) {
-            placeAt(disk[o.block], 28 + 33 * i);
+            placeAt(disk[o.block], 28 + 33 * i, Form.DATA);
         }
         for (int i = 0; i < o.data.size(); i++) {
             System.arraycopy(secret(nonce(o.number, i), disk[o.data.get(i)]), 0, all, 256 * i, 256);
@@ -1278,15 +1312,15 @@ final class Model {
         Obj[][] tree = new Obj[7][];
         byte[] top = rootBlock();
         for (int n = 0; top != null && n < 7; n++) {
-            Integer node = placeAt(top, 33 * n);
+            Integer node = placeAt(top, 33 * n, Form.NODE);
             if (node != null) {
                 tree[n] = new Obj[7];
                 for (int i = 0; i < 7; i++) {
-                    Integer block = placeAt(disk[node], 33 * i);
+                    Integer block = placeAt(disk[node], 33 * i, Form.OBJECT);
                     if (block != null) {
                         tree[n][i] = object(block);
                         for (int k = 0; k < tree[n][i].data.size(); k++) {
-                            placeAt(disk[block], 28 + 33 * k);
+                            placeAt(disk[block], 28 + 33 * k, Form.DATA);
                         }
                     }
                 }
@@ -1317,7 +1351,7 @@ final class Model {
     private int put(int product, String name, byte[] bytes) {
         if (find(product, name) == null) {
             byte[] top = rootBlock();
-            Integer node = top == null ? null : placeAt(top, 33 * wayOf(product, name));
+            Integer node = top == null ? null : placeAt(top, 33 * wayOf(product, name), Form.NODE);
             boolean full = node != null;
             for (int i = 0; full && i < 7; i++) {
                 full = (disk[node][33 * i] & 255) != 255;
@@ -1328,16 +1362,16 @@ final class Model {
         }
         Map<String, byte[]> one = new LinkedHashMap<>();
         one.put(name, bytes);
-        return commit(product, one);
+        return commit(product, one, false);
     }
 
     private int delete(int product, String name) {
         Map<String, byte[]> one = new LinkedHashMap<>();
         one.put(name, null);
-        return commit(product, one);
+        return commit(product, one, false);
     }
 
-    private int commit(int product, Map<String, byte[]> notes) {
+    private int commit(int product, Map<String, byte[]> notes, boolean together) {
         Obj[][] tree = readTree();
         TreeSet<Integer> used = usedBlocks(tree);
         boolean[] changed = new boolean[7];
@@ -1373,10 +1407,15 @@ final class Model {
             tree[n][at >= 0 ? at : empty] = o;
             changed[n] = true;
         }
-        return writeAll(product, notes, tree, used, changed);
+        boolean any = false;
+        for (int n = 0; n < 7; n++) {
+            any |= changed[n];
+        }
+        return any ? writeAll(product, notes, tree, used, changed, together) : 0;
     }
 
-    private int writeAll(int product, Map<String, byte[]> notes, Obj[][] tree, TreeSet<Integer> used, boolean[] changed) {
+    private int writeAll(int product, Map<String, byte[]> notes, Obj[][] tree, TreeSet<Integer> used,
+            boolean[] changed, boolean together) {
         List<Integer> free = new ArrayList<>();
         for (int i = 0; i < 64; i++) {
             if (!used.contains(i)) {
@@ -1384,19 +1423,16 @@ final class Model {
             }
         }
         int needed = 0;
-        boolean any = false;
-        boolean left = false;
+        boolean objects = false;
+        boolean places = false;
         for (int n = 0; n < 7; n++) {
             boolean empty = tree[n] == null || Arrays.stream(tree[n]).allMatch(o -> o == null);
-            any |= changed[n];
-            left |= !empty;
-            if (changed[n] && !empty) {
-                needed++;
-            }
+            objects |= !empty;
+            places |= changed[n] ? !empty : tree[n] != null;
+            needed += changed[n] && !empty ? 1 : 0;
         }
-        if (!any) {
-            return 0;
-        }
+        // of a NODE that had no OBJECT before, and has no part in it: COMMIT takes it as none, DELETE as a place
+        boolean left = together ? objects : places;
         needed += left ? 1 : 0;
         for (byte[] bytes : notes.values()) {
             needed += bytes == null ? 0 : 1 + (bytes.length + 255) / 256;
