@@ -1056,15 +1056,12 @@ public final class TrustedMachine {
             return false;
         }
 
-        /* A NODE on the disk may have no OBJECT. A COMMIT that leaves none but such leaves no ROOT. */
-        private void dropNodesIfAllAreEmpty() {
+        /* A NODE may have come to the disk without an OBJECT: for a COMMIT it is none. */
+        private void dropEmptyNodes() {
             for (int n = 0; n < WAYS; n++) {
-                if (hasObjects(n)) {
-                    return;
+                if (nodes[n] != RENEWED && !hasObjects(n)) {
+                    nodes[n] = EMPTY;
                 }
-            }
-            for (int n = 0; n < WAYS; n++) {
-                nodes[n] = nodes[n] == RENEWED ? RENEWED : EMPTY;
             }
         }
 
@@ -1099,7 +1096,7 @@ public final class TrustedMachine {
                 return FULL;
             }
             if (together) {
-                dropNodesIfAllAreEmpty();
+                dropEmptyNodes();
             }
             if (needed + countRenewed() > BLOCKS - countUsed()) {
                 return FULL;

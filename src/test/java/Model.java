@@ -1423,16 +1423,16 @@ final class Model {
             }
         }
         int needed = 0;
-        boolean objects = false;
-        boolean places = false;
+        boolean left = false;
         for (int n = 0; n < 7; n++) {
             boolean empty = tree[n] == null || Arrays.stream(tree[n]).allMatch(o -> o == null);
-            objects |= !empty;
-            places |= changed[n] ? !empty : tree[n] != null;
+            // a NODE that was laid without OBJECTS: none for COMMIT, a place for a PUT or DELETE alone
+            if (empty && (together || changed[n])) {
+                tree[n] = null;
+            }
+            left |= tree[n] != null;
             needed += changed[n] && !empty ? 1 : 0;
         }
-        // of a NODE that had no OBJECT before, and has no part in it: COMMIT takes it as none, DELETE as a place
-        boolean left = together ? objects : places;
         needed += left ? 1 : 0;
         for (byte[] bytes : notes.values()) {
             needed += bytes == null ? 0 : 1 + (bytes.length + 255) / 256;
@@ -1451,9 +1451,9 @@ final class Model {
         byte[] before = root == 255 ? null : disk[root].clone();
         for (int n = 0; n < 7; n++) {
             top[33 * n] = (byte) 255;
-            if (!changed[n] && before != null) {
+            if (tree[n] != null && !changed[n]) {
                 System.arraycopy(before, 33 * n, top, 33 * n, 33);
-            } else if (changed[n] && Arrays.stream(tree[n]).anyMatch(o -> o != null)) {
+            } else if (tree[n] != null) {
                 byte[] node = new byte[256];
                 for (int i = 0; i < 7; i++) {
                     setPlace(node, 33 * i, tree[n][i] == null ? 255 : tree[n][i].block);

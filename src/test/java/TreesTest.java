@@ -361,7 +361,7 @@ public final class TreesTest {
 
             t = emptyNodeBesideOne(parts);
             Check.due("COMMIT of a PUT", t.deal(note("n", 1)), "0 0 0 0 0");
-            Check.due("KEPT: the ROOT's other places stay", t.call(10, 3, 0, 0), "0 1 1 5 0");
+            Check.due("KEPT behind it: the empty NODE is none", t.call(10, 3, 0, 0), "0 1 1 4 0");
             t.compareDisks();
         }
     }
