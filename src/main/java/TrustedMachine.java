@@ -1432,7 +1432,6 @@ public final class TrustedMachine {
             if (code == YIELDS || code == DOWN) {
                 return code;
             }
-            running.endRun();
             if (code == DEAD) {
                 running.close();
                 results[0] = codes.told;

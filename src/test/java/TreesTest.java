@@ -39,6 +39,10 @@ public final class TreesTest {
         numbersOfEightBytes();
         deleteBesideAnEmptyNode();
         commitOfNothing();
+        formOfRootAndNode();
+        formOfAnObject();
+        numbersOfBlocks();
+        placesThatNameOneBlock();
         int last = args.length > 0 ? Integer.parseInt(args[0]) : 1500;
         for (int seed = 1; seed <= last; seed++) {
             new TreesTest(seed).randomTree();
@@ -377,6 +381,123 @@ public final class TreesTest {
         Check.due("KEPT behind it", t.call(10, 3, 0, 0), "0 0 0 2 0");
         Check.due("COUNT behind it", t.call(11, 0, 0, 0), "0 0 0 0 0");
         t.compareDisks();
+    }
+
+    // ---- the form of each BLOCK
+
+    /** ROOT 0, NODE 1 and OBJECT 2 of 'n' with its DATA in 3 and 4; one byte of a BLOCK is another one, and named so. */
+    private static TreesTest chain(int size, int block, int at, int value) throws ReflectiveOperationException {
+        TreesTest t = new TreesTest(1);
+        t.lay(3, Rig.rows(256, 5));
+        t.lay(4, Rig.rows(256, 6));
+        t.lay(2, t.object(3, "n", size, 9, Arrays.copyOf(new int[] {3, 4}, (size + 255) / 256)));
+        t.spoil(2, block, at, value);
+        t.layNode(1, 2);
+        t.spoil(1, block, at, value);
+        t.layNode(0, t.rootFor("n", 1));
+        t.spoil(0, block, at, value);
+        t.setRoot(0);
+        return t;
+    }
+
+    private void spoil(int now, int block, int at, int value) {
+        if (now == block) {
+            byte[] bytes = model.disk[block].clone();
+            bytes[at] = (byte) value;
+            lay(block, bytes);
+        }
+    }
+
+    /** All that comes by the OBJECT 'n' answers 6, and nothing is changed. */
+    private void allAreCorrupt(String what) {
+        Check.due(what + ": KEPT", call(10, 3, 0, 0), "6 0 0 0 0");
+        Check.due(what + ": HAS", invoke(HAS, word("n"), 1).substring(0, 7), "0 6000 ");
+        Check.due(what + ": GET", invoke(GET, word("n"), 1).substring(0, 7), "0 6000 ");
+        Check.due(what + ": LIST", invoke(LIST, 0, 0, 0).substring(0, 7), "0 6000 ");
+        Check.due(what + ": PUT", invoke(PUT, word("n"), 1, 3, 0), "0 6 0 0 0");
+        Check.due(what + ": DELETE", invoke(DELETE, word("n"), 1), "0 6 0 0 0");
+        Check.due(what + ": COMMIT", deal(note("m", 1)), "0 6 0 0 0");
+        Check.due(what + ": COUNT", call(11, 0, 0, 0), "0 0 0 0 0");
+        compareDisks();
+    }
+
+    /** "it is of its form: of ROOT and NODE 0s for none and in the rest". */
+    private static void formOfRootAndNode() throws ReflectiveOperationException {
+        for (int block = 0; block < 2; block++) {
+            int used = block == 0 ? way(3, "n") : 0;
+            for (int i = 0; i < 7; i++) {
+                if (i != used) {
+                    chain(300, block, 33 * i + 1, 1).allAreCorrupt("block " + block + ", the first byte of place " + i);
+                    chain(300, block, 33 * i + 32, 128).allAreCorrupt("block " + block + ", the last byte of place " + i);
+                }
+            }
+            for (int at = 231; at < 256; at++) {
+                chain(300, block, at, at % 2 == 0 ? 1 : 128).allAreCorrupt("block " + block + ", byte " + at);
+            }
+        }
+    }
+
+    /** "of an OBJECT byte 0 below 8, byte 1 1 .. 16, 0s behind the name, at most 512 bytes, 0s in the rest". */
+    private static void formOfAnObject() throws ReflectiveOperationException {
+        int[][] rows = {{300, 0, 7, 0}, {300, 0, 8, 1}, {300, 0, 255, 1}, {300, 1, 0, 1}, {300, 1, 1, 0}, {300, 1, 2, 0}, {300, 1, 16, 0},
+            {300, 1, 17, 1}, {300, 1, 128, 1}, {300, 1, 255, 1}, {300, 2, 0, 0}, {300, 3, 1, 1}, {300, 17, 1, 1}, {300, 17, 128, 1},
+            {512, 18, 2, 0}, {512, 19, 1, 1}, {512, 18, 3, 1}, {512, 18, 255, 1}, {300, 18, 0, 1}, {257, 19, 0, 1}, {257, 19, 255, 0},
+            {300, 20, 255, 0}, {300, 27, 255, 0}, {0, 28, 1, 1}, {0, 28, 255, 1}, {0, 255, 1, 1}, {1, 60, 0, 1}, {1, 61, 1, 1},
+            {256, 61, 255, 1}, {256, 255, 128, 1}, {257, 94, 1, 1}, {512, 94, 128, 1}, {512, 255, 1, 1}, {0, 27, 1, 0}, {256, 28, 5, 1},
+            {512, 61, 5, 1}, {512, 93, 0, 1}, {0, 19, 1, 1}, {256, 18, 0, 1}};
+        for (int[] r : rows) {
+            TreesTest t = chain(r[0], 2, r[1], r[2]);
+            String what = "an OBJECT of " + r[0] + " with byte " + r[1] + " " + r[2];
+            Check.due(what + ": KEPT", t.call(10, 3, 0, 0).charAt(0), r[3] == 1 ? '6' : '0');
+            boolean data = r[1] >= 28 && r[1] < 28 + 33 * ((r[0] + 255) / 256) || r[0] == 0 && r[1] == 19;
+            if (r[3] == 1 && !data) {
+                t.allAreCorrupt(what);
+            }
+        }
+    }
+
+    /** "A BLOCK is WHOLE if its number is below 64". */
+    private static void numbersOfBlocks() throws ReflectiveOperationException {
+        int[][] places = {{0, 33 * way(3, "n")}, {1, 0}, {2, 28}, {2, 61}};
+        for (int[] p : places) {
+            for (int number : new int[] {63, 64, 65, 127, 128, 254, 255}) {
+                TreesTest t = chain(300, p[0], p[1], number);
+                String what = "block " + p[0] + " with the number " + number + " at " + p[1];
+                Check.due(what + ": KEPT", t.call(10, 3, 0, 0), "6 0 0 0 0");
+                String has = t.invoke(HAS, word("n"), 1).substring(0, 6);
+                Check.due(what + ": HAS", has, p[0] == 2 ? "0 300 " : "0 6000");
+                Check.due(what + ": GET", t.invoke(GET, word("n"), 1).substring(0, 6), "0 6000");
+                t.compareDisks();
+            }
+        }
+        for (int[] p : places) {
+            for (int at : new int[] {1, 32}) {
+                int value = chain(300, -1, 0, 0).model.disk[p[0]][p[1] + at] ^ 1;
+                Check.due("block " + p[0] + " with a DIGEST that differs in byte " + at + " at " + p[1],
+                        chain(300, p[0], p[1] + at, value).call(10, 3, 0, 0), "6 0 0 0 0");
+            }
+        }
+        TreesTest last = new TreesTest(1);
+        last.lay(63, last.object(3, "n", 0, 9));
+        last.layNode(62, 63);
+        last.layNode(61, last.rootFor("n", 62));
+        last.setRoot(61);
+        Check.due("the last blocks: KEPT", last.call(10, 3, 0, 0), "0 1 1 3 0");
+        Check.due("the last blocks: HAS", last.invoke(HAS, word("n"), 1).substring(0, 4), "0 0 ");
+    }
+
+    /** "(each place of a NODE that names one is one)"; "each BLOCK once". */
+    private static void placesThatNameOneBlock() throws ReflectiveOperationException {
+        TreesTest t = new TreesTest(1);
+        t.lay(3, Rig.rows(256, 5));
+        t.lay(2, t.object(3, "n", 300, 9, 3, 3));
+        t.layNode(1, 2, 255, 2, 2);
+        t.layNode(0, 1, 1, 1, 1, 1, 1, 255);
+        t.setRoot(0);
+        Check.due("KEPT", t.call(10, 3, 0, 0), "0 18 18 4 0");
+        Check.due("KEPT of another", t.call(10, 4, 0, 0), "0 0 18 4 0");
+        Check.due("LIST 17", t.invoke(LIST, 0, 0, 17).substring(0, 4), "0 1 ");
+        Check.due("LIST 18", t.invoke(LIST, 0, 0, 18).substring(0, 6), "0 7000");
     }
 
     private static int[] note(String name, int what) {
