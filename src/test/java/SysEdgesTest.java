@@ -47,6 +47,8 @@ public final class SysEdgesTest {
         movePlaces();
         moveAsTheyAre();
         pagesThatLieApart();
+        rowsOverTwoPages();
+        rowsOverFourPages();
         timeOfThisOne();
         Check.finish();
     }
@@ -710,7 +712,7 @@ public final class SysEdgesTest {
             Check.due("the bytes behind MOVE " + Arrays.toString(m), rig.memory(0, 768), due);
             byte[] digest = Model.sha(Arrays.copyOfRange(due, 1, 768));
             Check.due("HASH of all but the first", rig.invoke(0, 2),
-                    "ends " + (digest[0] & 255 | (digest[1] & 255) << 8 | (digest[2] & 255) << 16 | digest[3] << 24));
+                    "ends " + word(digest));
             for (int page : new int[] {9, 11, 14, 16, 19, 21}) {
                 Check.due("page " + page + " beside them", rig.memory(256 * page, 256), ones);
             }
@@ -724,6 +726,82 @@ public final class SysEdgesTest {
         c.sys(Code.FIRST, 3).push(a).op(Code.ADD, Code.LOADB).sys(Code.FIRST, 3).push(parameter).sys(Code.PUTBYTE);
         c.sys(Code.FIRST, 3).push(1).op(Code.ADD, Code.DUP).push(3).sys(Code.SETFIRST).push(256).op(Code.SUB);
         return c.jump(Code.JZERO, c.place() + 6).jump(Code.JUMP, loop);
+    }
+
+    /** Ends with 1 if the n bytes from a on are those from b on. */
+    private static Code same(Code c, int a, int b, int n) {
+        return c.sys(Code.HASH, a, n, 900).sys(Code.HASH, b, n, 960).push(900).op(Code.LOADW).push(960).op(Code.LOADW, Code.SAME, Code.END);
+    }
+
+    /** Four pages that lie apart, with other bytes of the normal world between them; the first 200 are made. */
+    private static String apart(Code c) {
+        Rig rig = new Rig();
+        rig.setKey(KEY);
+        byte[] image = Code.image(4, new Code().sys(Code.MAKE, 0, 200).raw(toInts(c.bytes())));
+        rig.burn(image, 7);
+        rig.machine.boot();
+        for (int page : new int[] {22, 18, 10, 14}) {
+            rig.machine.call(1, page, 0, 0);
+        }
+        rig.bringIn(image);
+        byte[] ones = new byte[256];
+        Arrays.fill(ones, (byte) 0xee);
+        for (int page : new int[] {9, 11, 13, 15, 17, 19, 21, 23}) {
+            rig.store(256 * page, ones);
+        }
+        rig.open(0);
+        return rig.invoke(0, 0);
+    }
+
+    /** Whatever row a SYS takes or gives, it may begin in one page and end in the next one. */
+    private static void rowsOverTwoPages() {
+        Code name = new Code().sys(Code.PUT, 0, 3, 0, 16).op(Code.DROP).sys(Code.MOVE, 0, 16, 250).sys(Code.HAS, 250, 16).op(Code.ADD, Code.END);
+        Check.due("a name", apart(name), "ends 3");
+        Code list = new Code().sys(Code.PUT, 0, 3, 0, 16).op(Code.DROP).sys(Code.LIST, 0, 507).op(Code.DROP, Code.DROP);
+        Check.due("a name that is told", apart(same(list, 0, 507, 16)), "ends 1");
+        Code mac = new Code().sys(Code.MAC, 100, 50, 0, 64, 600).sys(Code.MOVE, 0, 64, 231).sys(Code.MAC, 100, 50, 231, 64, 751);
+        Check.due("a MAC and its key", apart(same(mac, 600, 751, 32)), "ends 1");
+        Code seal = new Code().sys(Code.MOVE, 100, 40, 600).sys(Code.SEAL, 600, 40, 0).sys(Code.MOVE, 0, 12, 251).sys(Code.MOVE, 100, 40, 731)
+                .sys(Code.SEAL, 731, 40, 251);
+        Check.due("SEAL and its nonce", apart(same(seal, 600, 731, 56)), "ends 1");
+        Code open = new Code().sys(Code.MOVE, 100, 40, 481).sys(Code.SEAL, 481, 40, 0).sys(Code.OPEN, 481, 40, 0).op(Code.DROP);
+        Check.due("OPEN", apart(same(open, 100, 481, 40)), "ends 1");
+        Code agree = new Code().sys(Code.AGREE, 0, 32, 600).sys(Code.MOVE, 0, 32, 241).sys(Code.MOVE, 32, 32, 497).sys(Code.AGREE, 241, 497, 743);
+        Check.due("AGREE", apart(same(agree, 600, 743, 32)), "ends 1");
+        Code sign = new Code().sys(Code.SIGN, 0, 100, 600).sys(Code.MOVE, 0, 100, 201).sys(Code.SIGN, 201, 100, 737);
+        Check.due("SIGN", apart(same(sign, 600, 737, 64)), "ends 1");
+        Code verify = new Code().sys(Code.PUBLIC, 241).sys(Code.SIGN, 0, 100, 481).sys(Code.MOVE, 0, 100, 701)
+                .sys(Code.VERIFY, 701, 100, 241, 481).op(Code.END);
+        Check.due("VERIFY", apart(verify), "ends 1");
+        Code object = new Code().sys(Code.PUT, 101, 300, 0, 1).op(Code.DROP).sys(Code.GET, 501, 300, 0, 1).op(Code.DROP, Code.DROP);
+        Check.due("PUT and GET", apart(same(object, 101, 501, 300)), "ends 1");
+    }
+
+    /** The same of a row that goes over all of four pages. */
+    private static void rowsOverFourPages() {
+        for (int[] m : new int[][] {{0, 700, 257}, {257, 700, 1}, {3, 1000, 5}, {255, 514, 254}}) {
+            Code plain = new Code().sys(Code.MOVE, 0, 200, 200).sys(Code.MOVE, 3, 397, 401).sys(Code.MOVE, 7, 200, 799);
+            Check.due("HASH over four pages", apart(plain.sys(Code.HASH, m[0], m[1], 0).push(0).op(Code.LOADW, Code.END)),
+                    "ends " + word(Model.sha(Arrays.copyOfRange(four(), m[0], m[0] + m[1]))));
+            byte[] moved = four();
+            System.arraycopy(moved.clone(), m[0], moved, m[2], m[1]);
+            Code move = new Code().sys(Code.MOVE, 0, 200, 200).sys(Code.MOVE, 3, 397, 401).sys(Code.MOVE, 7, 200, 799);
+            Check.due("MOVE over four pages", apart(move.sys(Code.MOVE, m[0], m[1], m[2]).sys(Code.HASH, 0, 1024, 0).push(0)
+                    .op(Code.LOADW, Code.END)), "ends " + word(Model.sha(moved)));
+        }
+    }
+
+    /** What the first three MOVEs there make of the 200 bytes. */
+    private static byte[] four() {
+        byte[] all = Arrays.copyOf(Model.chacha(KEY, new byte[12], new byte[200]), 1024);
+        for (int[] m : new int[][] {{0, 200, 200}, {3, 397, 401}, {7, 200, 799}}) {
+            System.arraycopy(all.clone(), m[0], all, m[2], m[1]);
+        }
+        return all;
+    }
+
+    private static int word(byte[] bytes) {
+        return bytes[0] & 255 | (bytes[1] & 255) << 8 | (bytes[2] & 255) << 16 | bytes[3] << 24;
     }
 
     /** "TIME -- STEPS done since INVOKE, this one with them". */

@@ -41,6 +41,9 @@ public final class TreesTest {
         commitOfNothing();
         formOfRootAndNode();
         formOfAnObject();
+        objectWithoutAName();
+        formIsLookedAtAgain();
+        allBlocksInUse();
         numbersOfBlocks();
         placesThatNameOneBlock();
         int last = args.length > 0 ? Integer.parseInt(args[0]) : 1500;
@@ -454,6 +457,71 @@ public final class TreesTest {
                 t.allAreCorrupt(what);
             }
         }
+    }
+
+    /** The same: an OBJECT without a name. */
+    private static void objectWithoutAName() throws ReflectiveOperationException {
+        TreesTest t = new TreesTest(1);
+        t.lay(2, t.object(3, "", 0, 9));
+        t.layNode(1, 2);
+        t.layNode(0, t.rootFor("n", 1));
+        t.setRoot(0);
+        t.allAreCorrupt("an OBJECT without a name");
+    }
+
+    /** The same of a BLOCK that was of its form before, and is not any more. */
+    private static void formIsLookedAtAgain() throws ReflectiveOperationException {
+        for (int block = 0; block < 3; block++) {
+            TreesTest t = chain(300, -1, 0, 0);
+            Check.due("KEPT", t.call(10, 3, 0, 0), "0 1 1 5 0");
+            t.spoil(2, block, 250, 1);
+            if (block > 0) {
+                t.layNode(1, 2);
+                t.spoil(1, block, 250, 1);
+                t.layNode(0, t.rootFor("n", 1));
+            }
+            t.spoil(0, block, 250, 1);
+            t.setRoot(0);
+            t.allAreCorrupt("block " + block + ", which was of its form");
+            if (block == 0) {
+                t.spoil(0, 0, 250, 0);
+                t.setRoot(0);
+                Check.due("KEPT when it is again", t.call(10, 3, 0, 0), "0 1 1 5 0");
+            }
+        }
+    }
+
+    /** "free BLOCKS are all others .. (4, if there are fewer)": there is none, and even a NODE's last cannot go. */
+    private static void allBlocksInUse() throws ReflectiveOperationException {
+        TreesTest t = new TreesTest(1);
+        // DATA from 27 on; OBJECTS in 8 .. 26, their NODES in 1 .. 7, three to each but for the first, which has 'n' alone
+        int data = 27;
+        int[] places = new int[7];
+        for (int node = 0, object = 8; node < 7; node++) {
+            int many = node == 0 ? 1 : 3;
+            int[] objects = new int[many];
+            int at = (way(3, "n") + node) % 7;
+            for (int k = 0; k < many; k++, object++) {
+                String name = node == 0 ? "n" : "" + (char) ('n' + node + 7 * k);
+                int parts = object == 8 ? 1 : 2;
+                t.lay(object, t.object(3, name, 256 * parts, 1, Arrays.copyOf(new int[] {data, data + 1}, parts)));
+                data += parts;
+                objects[k] = object;
+            }
+            t.layNode(1 + node, objects);
+            places[at] = 1 + node;
+        }
+        t.layNode(0, places);
+        t.setRoot(0);
+        Check.due("all are in use: KEPT", t.call(10, 3, 0, 0), "0 19 19 64 0");
+        Check.due("DELETE of a NODE's last", t.invoke(DELETE, word("n"), 1), "0 4 0 0 0");
+        Check.due("DELETE of another", t.invoke(DELETE, word("o"), 1), "0 4 0 0 0");
+        Check.due("PUT of what is there", t.invoke(PUT, word("n"), 1, 0, 0), "0 4 0 0 0");
+        Check.due("COMMIT of a NODE's last", t.deal(note("n", DELETES)), "0 4 0 0 0");
+        Check.due("COMMIT of nothing", t.deal(), "0 0 0 0 0");
+        Check.due("COMMIT of what is not there", t.deal(note("a", 5), note("a", DELETES)), "0 0 0 0 0");
+        Check.due("COUNT", t.call(11, 0, 0, 0), "0 0 0 0 0");
+        t.compareDisks();
     }
 
     /** "A BLOCK is WHOLE if its number is below 64". */
