@@ -21,8 +21,10 @@ public final class CipherTest {
         make();
         makeBehindBoot();
         seal();
+        sealOneBehindTheOther();
         open();
         sign();
+        signWithManyKeys();
         verify();
         verifyManyKeys();
         verifyOddPoints();
@@ -118,6 +120,22 @@ public final class CipherTest {
                 sealed(Code.image(2, over), Arrays.copyOfRange(text, 104, 116), Arrays.copyOf(text, 100)));
     }
 
+    /** What a longer SEAL leaves behind is of no matter for a shorter one. */
+    private static void sealOneBehindTheOther() throws Exception {
+        Code c = new Code().takeIn(0, 240, 256).sys(Code.MOVE, 256, 200, 512).sys(Code.SEAL, 512, 200, 484);
+        for (int n : new int[] {37, 5, 0}) {
+            c.sys(Code.MOVE, 256, 200, 768).sys(Code.SEAL, 768, n, 484);
+        }
+        Rig rig = keyed(4, c.sys(Code.MOVE, 256, 200, 512).sys(Code.SEAL, 512, 21, 484).giveOut(512, 37, 1).end());
+        byte[] text = Rig.rows(240, 77);
+        rig.store(Rig.BYTES, text);
+        rig.tell(4, Rig.BYTES, 240, 5, Rig.BYTES + 256, 37);
+        Check.due("SEALs", rig.invoke(0, 0), "ends 0");
+        byte[] image = Code.image(4, c);
+        Check.due("the last one", rig.memory(Rig.BYTES + 256, 37),
+                sealed(image, Arrays.copyOfRange(text, 228, 240), Arrays.copyOf(text, 21)));
+    }
+
     private static void open() throws Exception {
         for (int n : new int[] {0, 1, 16, 64, 150}) {
             Code right = new Code().takeIn(0, 240, 256).sys(Code.SEAL, 256, n, 484).sys(Code.OPEN, 256, n, 484);
@@ -194,6 +212,26 @@ public final class CipherTest {
         Check.due("the test's own curve, by RFC 8032", PlainCurve.publicKey(
                 hex("9d61b19deffd5a60ba844af492ec2cc44449c5697b326919703bac031cae7f60")),
                 hex("d75a980182b10ab7d54bfed3c964073a0ee172f3daa62325af021a68f707511a"));
+    }
+
+    /** "its secret key the 32 bytes of the MAC with the KEY of the byte 1": of any KEY. */
+    private static void signWithManyKeys() {
+        byte[] image = Code.image(1, new Code().sys(Code.SIGN, 0, 40, 100).giveOut(100, 64, 1).end());
+        for (int i = 0; i < 16; i++) {
+            byte[] key = i == 0 ? hex("ff".repeat(32)) : Rig.rows(32, 13 * i);
+            Rig rig = new Rig();
+            rig.setKey(key);
+            rig.burn(image, 4);
+            rig.start();
+            rig.bringIn(image);
+            rig.open(0);
+            rig.tell(0, 0, 0, 5, Rig.BYTES, 64);
+            byte[] secret = Model.mac(key, new byte[] {1});
+            Check.due("SIGN", rig.invoke(0, 0), "ends 0");
+            Check.due("SIGN with KEY " + i, rig.memory(Rig.BYTES, 64), PlainCurve.sign(secret, new byte[40]));
+            Check.due("PUBLIC", rig.machine.call(15, 100, 0, 0), 0);
+            Check.due("PUBLIC with KEY " + i, rig.memory(100, 32), PlainCurve.publicKey(secret));
+        }
     }
 
     private static String verified(byte[] text, byte[] open, byte[] signature) {

@@ -39,6 +39,7 @@ public final class DiskEdgesTest {
         deleteLastOfAll();
         listWithoutSign();
         beginTwice();
+        beginWithoutTheRight();
         commitAndUndoOfNone();
         atMostFour();
         ofOneNameTheLatest();
@@ -595,6 +596,26 @@ public final class DiskEdgesTest {
         DiskRig d = new DiskRig(0, 1);
         due("an asked one's BEGIN", d.both(0, new int[][] {BEGIN, DiskRig.ask(1), UNDO}, new int[][] {BEGIN, UNDO, COMMIT}), "0 0:0 0 | 8 7 7");
         due("the asked one's own", d.both(0, new int[][] {DiskRig.ask(1), BEGIN}, new int[][] {BEGIN}), "0:0 0 | 0");
+    }
+
+    /** "0; 8 if this session has one; 2 without the RIGHT 1": in that order. */
+    private static void beginWithoutTheRight() {
+        for (int busy = 0; busy < 2; busy++) {
+            Code asks = new Code();
+            if (busy == 1) {
+                asks.sys(Code.BEGIN).op(Code.DROP);
+            }
+            byte[] one = Code.image(1, asks.sys(Code.ASK, 1, 0).op(Code.END));
+            byte[] two = Code.image(1, new Code().sys(Code.BEGIN).op(Code.END));
+            Rig rig = new Rig();
+            rig.burn(one, 7);
+            rig.burn(two, 6);
+            rig.start();
+            rig.bringIn(one);
+            rig.bringIn(two);
+            rig.open(0);
+            Check.due("BEGIN without the RIGHT 1, busy " + busy, rig.invoke(0, 0), busy == 1 ? "ends 8" : "ends 2");
+        }
     }
 
     /** "COMMIT ..; 7 if there is none of this APPLET's"; "UNDO -- c: .. 0, 7". */

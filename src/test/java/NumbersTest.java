@@ -22,6 +22,8 @@ public final class NumbersTest {
         test.products();
         test.packing();
         test.tags();
+        test.sums();
+        test.tagsOfTheRfc();
         test.scalars();
         Check.finish();
     }
@@ -139,6 +141,61 @@ public final class NumbersTest {
             wrong += Arrays.equals(tag, Arrays.copyOf(PlainCurve.lowestFirst(sum), 16)) ? 0 : 1;
         }
         Check.due("tags that are wrong", wrong, 0);
+    }
+
+    /** What Poly1305 has summed up, just below 2^130 - 5, at it and above it, with carries that go through all limbs. */
+    private void sums() throws ReflectiveOperationException {
+        Object cipher = make("Cipher");
+        Method reduce = method("Cipher", "reduce");
+        long[] sum = (long[]) field(cipher, "sum");
+        BigInteger prime = BigInteger.ONE.shiftLeft(130).subtract(BigInteger.valueOf(5));
+        int most = (1 << 26) - 1;
+        int wrong = 0;
+        for (int i = 0; i < 20000; i++) {
+            for (int k = 0; k < 5; k++) {
+                boolean atEdge = i % 4 != 0 || random.nextBoolean();
+                sum[k] = atEdge ? most - (random.nextInt(8) == 0 ? random.nextInt(3) : 0) : random.nextInt(most + 1);
+            }
+            sum[0] = i % 3 == 0 ? sum[0] : most - random.nextInt(12);
+            sum[1] += i % 2 == 0 ? random.nextInt(66) : 0;
+            BigInteger before = BigInteger.ZERO;
+            BigInteger behind = BigInteger.ZERO;
+            for (int k = 0; k < 5; k++) {
+                before = before.add(BigInteger.valueOf(sum[k]).shiftLeft(26 * k));
+            }
+            reduce.invoke(cipher);
+            for (int k = 0; k < 5; k++) {
+                wrong += sum[k] < 0 || sum[k] > most ? 1 : 0;
+                behind = behind.add(BigInteger.valueOf(sum[k]).shiftLeft(26 * k));
+            }
+            wrong += behind.equals(before.mod(prime)) ? 0 : 1;
+        }
+        Check.due("sums modulo 2^130 - 5 that are wrong", wrong, 0);
+    }
+
+    /** RFC 8439, A.3, 7 to 11: the edges of Poly1305, as R, the text and the tag; S is 0 in all of them. */
+    private void tagsOfTheRfc() throws ReflectiveOperationException {
+        String ones = "ff".repeat(16);
+        String[][] rows = {
+            {"01" + "00".repeat(15), ones + "f0" + "ff".repeat(15) + "11" + "00".repeat(15), "05" + "00".repeat(15)},
+            {"01" + "00".repeat(15), ones + "fb" + "fe".repeat(15) + "01".repeat(16), "00".repeat(16)},
+            {"02" + "00".repeat(15), "fd" + "ff".repeat(15), "fa" + "ff".repeat(15)},
+            {"0100000000000000" + "0400000000000000", "e33594d7505e43b900000000000000003394d7505e4379cd010000000000000000000000"
+                + "0000000000000000000000000100000000000000" + "0000000000000000", "14000000000000005500000000000000"},
+            {"0100000000000000" + "0400000000000000", "e33594d7505e43b900000000000000003394d7505e4379cd010000000000000000000000"
+                + "000000000000000000000000", "13" + "00".repeat(15)}
+        };
+        Object cipher = make("Cipher");
+        Method poly = method("Cipher", "poly", int.class);
+        for (String[] r : rows) {
+            byte[] text = java.util.HexFormat.of().parseHex(r[1]);
+            byte[] key = (byte[]) field(cipher, "oneTime");
+            Arrays.fill(key, (byte) 0);
+            System.arraycopy(java.util.HexFormat.of().parseHex(r[0]), 0, key, 0, 16);
+            System.arraycopy(text, 0, (byte[]) field(cipher, "text"), 0, text.length);
+            poly.invoke(cipher, text.length);
+            Check.due("the tag of " + r[1], (byte[]) field(cipher, "tag"), java.util.HexFormat.of().parseHex(r[2]));
+        }
     }
 
     private void scalars() throws ReflectiveOperationException {
