@@ -1,3 +1,5 @@
+import java.util.Arrays;
+
 /** Promise 10, Part III: the sentences that name an edge of the codes, their faults and STEPS, one test each. */
 public final class CodeEdgesTest {
     private static final int BIG = Integer.MAX_VALUE;
@@ -45,6 +47,7 @@ public final class CodeEdgesTest {
         stepsByBytes();
         stepsAboveTwoThousand();
         stepsAheadOfAllElse();
+        stepsAheadOfRights();
         Check.finish();
     }
 
@@ -539,6 +542,35 @@ public final class CodeEdgesTest {
         }
         due("COMMIT and END with just enough", spending(19898).sys(Code.COMMIT).op(Code.END), "ends 7");
         due("COMMIT and END with one too few", spending(19899).sys(Code.COMMIT).op(Code.END), "fault 6");
+    }
+
+    /** The same ahead of what is missing in the RIGHTS: code 2 and fault 7. */
+    private static void stepsAheadOfRights() {
+        int[][] rows = {{Code.PUT, 100, 0, 1, 0, 1}, {Code.GET, 100, 0, 1, 0, 1}, {Code.DELETE, 100, 0, 1}, {Code.HAS, 100, 0, 1},
+            {Code.LIST, 100, 0, 0}, {Code.SIGN, 5000, 0, 1, 0}, {Code.PUBLIC, 5000, 0}, {Code.AGREE, 5000, 0, 0, 0}, {Code.MAKE, 3, 0, 192},
+            {Code.SEAL, 3, 0, 192, 0}, {Code.OPEN, 3, 0, 192, 0}};
+        for (int[] r : rows) {
+            int[] words = Arrays.copyOfRange(r, 2, r.length);
+            int fits = 20000 - words.length - 1 - r[1];
+            boolean told = r[1] == 100;
+            String want = !told ? "fault 7" : SYS_GIVES[r[0]] == 2 ? "ends 0" : "ends 2";
+            Check.due("SYS " + r[0] + " with just enough", Rig.withRights(0, 1, turning(fits - (told ? 1 : 0)).sys(r[0], words).op(Code.END))
+                    .invoke(0, 0), want);
+            Check.due("SYS " + r[0] + " with one too few", Rig.withRights(0, 1, turning(fits + 1).sys(r[0], words).op(Code.END)).invoke(0, 0),
+                    "fault 6");
+        }
+    }
+
+    /** Codes that take so many STEPS, and need no RIGHT. */
+    private static Code turning(int steps) {
+        Code c = new Code().push(0);
+        int loop = c.place();
+        c.push(1).op(Code.ADD, Code.DUP).push(steps / 7).op(Code.SUB);
+        c.jump(Code.JZERO, c.place() + 6).jump(Code.JUMP, loop);
+        for (int i = 0; i < steps % 7; i++) {
+            c.jump(Code.JUMP, c.place() + 3);
+        }
+        return c;
     }
 
     private static Code filled(int steps) {

@@ -24,6 +24,7 @@ public final class DiskEdgesTest {
         firstEmptyPlace();
         noEmptyPlace();
         lookedAtBehindThePlace();
+        corruptOnTheWayToAPlace();
         tooFewBlocks();
         tooFewForADelete();
         corruptAheadOfFull();
@@ -362,6 +363,18 @@ public final class DiskEdgesTest {
         due("KEPT", d.rig.kept(0), "code 6");
     }
 
+    /** The OBJECTS of a NODE are read ahead of the look for a place: 6, though it is full. */
+    private static void corruptOnTheWayToAPlace() {
+        DiskRig d = new DiskRig(0);
+        due("seven", d.run(0, BEGIN, put(0, 0), put(7, 0), put(14, 0), put(21, 0), COMMIT, BEGIN, put(28, 0), put(35, 0), put(42, 0), COMMIT),
+                "0 0 0 0 0 0 0 0 0 0 0");
+        // the first OBJECTS are in blocks 0 .. 3
+        d.rig.machine.disk(3, 9, 1);
+        due("an eighth with an OBJECT edited", d.run(0, put(49, 0), put(0, 0), put(42, 0), delete(42), delete(49)), "6 6 6 6 6");
+        d.rig.machine.disk(3, 9, 1);
+        due("an eighth", d.run(0, put(49, 0)), "4");
+    }
+
     /** A tree that leaves so many blocks free, 1 .. 5: of 0, 7, 14 .. in NODE 0, and so on; 6 is alone in NODE 6. */
     private static DiskRig leaving(int free) {
         DiskRig d = new DiskRig(0);
@@ -683,6 +696,8 @@ public final class DiskEdgesTest {
         d.rig.machine.disk(10, 0, 1);
         due("with the ROOT edited", d.run(0, BEGIN, put(0, 2), delete(0), delete(0), delete(7), put(7, 1), has(7), has(14), get(7, 9), UNDO),
                 "0 0 0 7 6 0 0:1 6:0 0:1 0");
+        due("6 comes ahead of 4", d.run(0, BEGIN, put(20, 0), put(21, 0), put(22, 0), put(23, 0), delete(7), put(7, 0), delete(20), UNDO),
+                "0 0 0 0 0 6 4 0 0");
         d.rig.machine.disk(10, 0, 1);
         due("nothing is changed", d.run(0, has(0), has(7)), "0:1 0:1");
     }
