@@ -1532,6 +1532,8 @@ public final class TrustedMachine {
         /* Each round takes a STEP, or ends a run that was begun by one. */
         static final int MOST_ROUNDS = 3 * MOST_STEPS;
         static final int SYS = 23;
+        /* With this bit turned over, words without sign are ordered as those with one. */
+        static final int SIGN = 0x80000000;
 
         /* What becomes of a run by a code: it goes on, has a fault 1 .. 8, ends, or is DOWN. */
         static final int ON = 0;
@@ -1764,7 +1766,7 @@ public final class TrustedMachine {
                 case 10: return x ^ y;
                 case 11: return x << (y & 31);
                 case 12: return x >>> (y & 31);
-                case 13: return x + Integer.MIN_VALUE < y + Integer.MIN_VALUE ? 1 : 0;
+                case 13: return (x ^ SIGN) < (y ^ SIGN) ? 1 : 0;
                 default: return x == y ? 1 : 0;
             }
         }
